@@ -1,0 +1,61 @@
+public final class Promise09ClosedTest {
+    public static void main(String[] args) {
+        Due due = new Due();
+        oneOfSeveralIsEnough(due);
+        slowClosesNothing(due);
+        goneAndToCome(due);
+        refusals(due);
+        due.end();
+    }
+
+    private static void oneOfSeveralIsEnough(Due due) {
+        ClosureRows x = new ClosureRows();
+        x.close(Due.EVENT, 6, 1, 0, 100, 0);
+        x.close(Due.SLOW, 6, 3, 0, 100, 50);
+        x.close(Due.WORKS, 6, 1, 10, 20, 0);
+        x.close(Due.WORKS, 6, 2, 15, 25, 0);
+        due.is("closed(6, 1, 9)", x.closed(6, 1, 9), false);
+        due.is("closed(6, 1, 10)", x.closed(6, 1, 10), true);
+        due.is("closed(6, 1, 20)", x.closed(6, 1, 20), false);
+        due.is("closed(6, 2, 14)", x.closed(6, 2, 14), false);
+        due.is("closed(6, 2, 24)", x.closed(6, 2, 24), true);
+    }
+
+    private static void slowClosesNothing(Due due) {
+        ClosureRows x = new ClosureRows();
+        x.close(Due.SLOW, 6, 3, 0, 100, 1);
+        for (int t : new int[] {0, 50, 99, 100}) {
+            due.is("closed(6, 1, " + t + ")", x.closed(6, 1, t), false);
+            due.is("closed(6, 2, " + t + ")", x.closed(6, 2, t), false);
+        }
+    }
+
+    private static void goneAndToCome(Due due) {
+        ClosureRows x = new ClosureRows();
+        x.close(Due.WORKS, 6, 1, 0, 100, 0);
+        x.close(Due.FLOOD, 7, 1, 50, 0, 0);
+        x.tick(60);
+        due.is("works, a minute gone", x.closed(6, 1, 0), true);
+        due.is("a flood holds on", x.closed(7, 1, 99_999), true);
+        x.lift(0, 1);
+        due.is("lifted, a minute gone", x.closed(6, 1, 59), true);
+        due.is("lifted, now", x.closed(6, 1, 60), false);
+        x.close(Due.WORKS, 8, 1, 10, 20, 0);
+        due.is("told of when it is gone", x.closed(8, 1, 15), true);
+    }
+
+    private static void refusals(Due due) {
+        ClosureRows x = new ClosureRows();
+        for (int piece : new int[] {Integer.MIN_VALUE, -1, 60, Integer.MAX_VALUE}) {
+            due.refuses("piece " + piece, Due.UNKNOWN, () -> x.closed(piece, 1, 0));
+            due.refuses("piece " + piece + ", side 3", Due.UNKNOWN, () -> x.closed(piece, 3, 0));
+            due.refuses("piece " + piece + ", minute -1", Due.UNKNOWN, () -> x.closed(piece, 1, -1));
+        }
+        for (int side : new int[] {Integer.MIN_VALUE, -1, 0, 3, Integer.MAX_VALUE}) {
+            due.refuses("side " + side, Due.RANGE, () -> x.closed(0, side, 0));
+        }
+        for (int t : new int[] {Integer.MIN_VALUE, -1, 100_000, Integer.MAX_VALUE}) {
+            due.refuses("minute " + t, Due.RANGE, () -> x.closed(0, 1, t));
+        }
+    }
+}
