@@ -39,6 +39,26 @@ final class Due {
         tell(call + " threw nothing, due is " + want.getName());
     }
 
+    /** A call about a side of a piece at a minute. */
+    interface SideCall {
+        void make(int piece, int side, int t);
+    }
+
+    /** What closed, minutes, opens, reason and speed refuse alike. */
+    void refusesSides(String name, SideCall call) {
+        for (int piece : new int[] {Integer.MIN_VALUE, -1, 60, Integer.MAX_VALUE}) {
+            refuses(name + " of piece " + piece, UNKNOWN, () -> call.make(piece, 1, 0));
+            refuses(name + " of piece " + piece + ", side 0", UNKNOWN, () -> call.make(piece, 0, 0));
+            refuses(name + " of piece " + piece + ", minute -1", UNKNOWN, () -> call.make(piece, 1, -1));
+        }
+        for (int side : new int[] {Integer.MIN_VALUE, -1, 0, 3, Integer.MAX_VALUE}) {
+            refuses(name + " of side " + side, RANGE, () -> call.make(59, side, 0));
+        }
+        for (int t : new int[] {Integer.MIN_VALUE, -1, 100_000, Integer.MAX_VALUE}) {
+            refuses(name + " at minute " + t, RANGE, () -> call.make(59, 2, t));
+        }
+    }
+
     /** The whole of notice i at once: unit, piece, side, closed, minute. */
     void notice(ClosureRows x, int i, int... want) {
         for (int what = 0; what < want.length; what++) {

@@ -4,6 +4,7 @@ public final class Promise07TickTest {
         howManyNotices(due);
         eachMinuteByItself(due);
         orderOfOneMinute(due);
+        oneSideOnly(due);
         onlyOfThisTick(due);
         range(due);
         theEndOfTime(due);
@@ -65,6 +66,17 @@ public final class Promise07TickTest {
         };
         for (int i = 0; i < want.length; i++) {
             due.notice(x, i, want[i][0], want[i][1], want[i][2], 1, 5);
+        }
+    }
+
+    private static void oneSideOnly(Due due) {
+        for (int side = 1; side <= 2; side++) {
+            ClosureRows x = new ClosureRows();
+            x.step(6, 3, 1);
+            x.step(6, 3, 2);
+            x.close(Due.WORKS, 3, side, 2, 4, 0);
+            due.is("tick(3), side " + side, x.tick(3), 1);
+            due.notice(x, 0, 6, 3, side, 1, 2);
         }
     }
 

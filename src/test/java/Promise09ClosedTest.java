@@ -46,16 +46,6 @@ public final class Promise09ClosedTest {
 
     private static void refusals(Due due) {
         ClosureRows x = new ClosureRows();
-        for (int piece : new int[] {Integer.MIN_VALUE, -1, 60, Integer.MAX_VALUE}) {
-            due.refuses("piece " + piece, Due.UNKNOWN, () -> x.closed(piece, 1, 0));
-            due.refuses("piece " + piece + ", side 3", Due.UNKNOWN, () -> x.closed(piece, 3, 0));
-            due.refuses("piece " + piece + ", minute -1", Due.UNKNOWN, () -> x.closed(piece, 1, -1));
-        }
-        for (int side : new int[] {Integer.MIN_VALUE, -1, 0, 3, Integer.MAX_VALUE}) {
-            due.refuses("side " + side, Due.RANGE, () -> x.closed(0, side, 0));
-        }
-        for (int t : new int[] {Integer.MIN_VALUE, -1, 100_000, Integer.MAX_VALUE}) {
-            due.refuses("minute " + t, Due.RANGE, () -> x.closed(0, 1, t));
-        }
+        due.refusesSides("closed", (piece, side, t) -> x.closed(piece, side, t));
     }
 }

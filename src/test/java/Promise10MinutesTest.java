@@ -40,13 +40,9 @@ public final class Promise10MinutesTest {
 
     private static void refusals(Due due) {
         ClosureRows x = new ClosureRows();
-        for (int piece : new int[] {Integer.MIN_VALUE, -1, 60, Integer.MAX_VALUE}) {
-            due.refuses("piece " + piece, Due.UNKNOWN, () -> x.minutes(piece, 1, 0, 1));
-            due.refuses("piece " + piece + ", all else wrong", Due.UNKNOWN, () -> x.minutes(piece, 0, 9, -1));
-        }
-        for (int side : new int[] {Integer.MIN_VALUE, -1, 0, 3, Integer.MAX_VALUE}) {
-            due.refuses("side " + side, Due.RANGE, () -> x.minutes(0, side, 0, 1));
-        }
+        due.refusesSides("minutes from", (piece, side, t) -> x.minutes(piece, side, t, t));
+        due.refusesSides("minutes to", (piece, side, t) -> x.minutes(piece, side, Math.max(0, Math.min(99_999, t)), t));
+        due.refuses("an unknown piece, to below from", Due.UNKNOWN, () -> x.minutes(60, 1, 9, 8));
         int[][] spans = {
             {-1, 5}, {-1, -1}, {5, 4}, {1, 0}, {0, -1}, {0, 2001}, {50, 2051}, {99_999, 100_000}, {98_000, 100_000},
             {100_000, 100_000}, {Integer.MIN_VALUE, Integer.MAX_VALUE}, {Integer.MAX_VALUE, Integer.MIN_VALUE},

@@ -76,18 +76,10 @@ public final class Promise12ReasonTest {
 
     private static void refusals(Due due) {
         ClosureRows x = new ClosureRows();
-        for (int piece : new int[] {Integer.MIN_VALUE, -1, 60, Integer.MAX_VALUE}) {
-            due.refuses("piece " + piece, Due.UNKNOWN, () -> x.reason(piece, 1, 0, 0));
-            due.refuses("piece " + piece + ", all else wrong", Due.UNKNOWN, () -> x.reason(piece, 0, -1, -1));
-        }
-        for (int side : new int[] {Integer.MIN_VALUE, -1, 0, 3, Integer.MAX_VALUE}) {
-            due.refuses("side " + side, Due.RANGE, () -> x.reason(0, side, 0, 0));
-        }
-        for (int t : new int[] {Integer.MIN_VALUE, -1, 100_000, Integer.MAX_VALUE}) {
-            due.refuses("minute " + t, Due.RANGE, () -> x.reason(0, 1, t, 0));
-        }
+        due.refusesSides("reason", (piece, side, t) -> x.reason(piece, side, t, 0));
         for (int i : new int[] {Integer.MIN_VALUE, -1}) {
-            due.refuses("i " + i, Due.RANGE, () -> x.reason(0, 1, 0, i));
+            due.refuses("reason(0, 1, 0, " + i + ")", Due.RANGE, () -> x.reason(0, 1, 0, i));
+            due.refuses("reason(60, 1, 0, " + i + ")", Due.UNKNOWN, () -> x.reason(60, 1, 0, i));
         }
     }
 }

@@ -29,15 +29,6 @@ public final class Promise13SpeedTest {
 
     private static void refusals(Due due) {
         ClosureRows x = new ClosureRows();
-        for (int piece : new int[] {Integer.MIN_VALUE, -1, 60, Integer.MAX_VALUE}) {
-            due.refuses("piece " + piece, Due.UNKNOWN, () -> x.speed(piece, 1, 0));
-            due.refuses("piece " + piece + ", all else wrong", Due.UNKNOWN, () -> x.speed(piece, 0, -1));
-        }
-        for (int side : new int[] {Integer.MIN_VALUE, -1, 0, 3, Integer.MAX_VALUE}) {
-            due.refuses("side " + side, Due.RANGE, () -> x.speed(0, side, 0));
-        }
-        for (int t : new int[] {Integer.MIN_VALUE, -1, 100_000, Integer.MAX_VALUE}) {
-            due.refuses("minute " + t, Due.RANGE, () -> x.speed(0, 1, t));
-        }
+        due.refusesSides("speed", (piece, side, t) -> x.speed(piece, side, t));
     }
 }
