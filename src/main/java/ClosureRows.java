@@ -90,7 +90,7 @@ public final class ClosureRows {
         if (!closures.canBeLifted(closure, now)) {
             throw new IllegalStateException("lifted before, a crossing, or at its end");
         }
-        if (closures.needsAnotherWord(closure, by)) {
+        if (!closures.giveWord(closure, by)) {
             return false;
         }
         closures.endAt(closure, now);
@@ -392,15 +392,15 @@ public final class ClosureRows {
             return kinds[closure] != CROSSING && ends[closure] > t;
         }
 
-        /** Keeps the first word for a flood: only another person's word may lift it. */
-        boolean needsAnotherWord(int closure, int by) {
+        /** Whether this word is enough to lift: of a flood, the first one's is kept and only another one's is. */
+        boolean giveWord(int closure, int by) {
             if (kinds[closure] != FLOOD) {
-                return false;
+                return true;
             }
             if (words[closure] == NONE) {
                 words[closure] = by;
             }
-            return words[closure] == by;
+            return words[closure] != by;
         }
 
         void endAt(int closure, int t) {

@@ -29,7 +29,7 @@ public final class FullRowsTest {
         due.end();
     }
 
-    /** Crossings that turn each minute (41 of them on piece 59, 40 of these on its side 2), and ten routes over them. */
+    /** Crossings that turn each minute, 40 of them on side 2 of piece 59, and ten routes over them. */
     private static ClosureRows fullRows() {
         ClosureRows x = new ClosureRows();
         for (int n = 0; n < 100; n++) {

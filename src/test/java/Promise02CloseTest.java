@@ -19,7 +19,8 @@ public final class Promise02CloseTest {
     private static void numbersInOrder(Due due) {
         ClosureRows x = new ClosureRows();
         for (int kind = Due.WORKS; kind <= Due.SLOW; kind++) {
-            due.is("close of kind " + kind, x.close(kind, 59 * (kind % 2), 3, 0, 99_999, kind == Due.CROSSING ? 201 : 7), kind);
+            int good = kind == Due.CROSSING ? 201 : 7;
+            due.is("close of kind " + kind, x.close(kind, 59 * (kind % 2), 3, 0, 99_999, good), kind);
         }
     }
 
