@@ -2,13 +2,17 @@ public final class Promise03AnswerTest {
     public static void main(String[] args) {
         Due due = new Due();
         allowedOrNot(due);
-        refusals(due);
+        answeredAtEachMinute(due);
+        unknown(due);
+        noEvent(due);
+        wasAnswered(due);
         unitsAreTold(due);
         aLiftedEventIsAnsweredStill(due);
         due.end();
     }
 
     private static void allowedOrNot(Due due) {
+        due.by("An event is allowed, or not");
         ClosureRows x = new ClosureRows();
         x.close(Due.EVENT, 8, 1, 10, 20, 0);
         x.close(Due.EVENT, 8, 2, 10, 20, 0);
@@ -24,29 +28,66 @@ public final class Promise03AnswerTest {
         due.is("reason, not allowed", x.reason(8, 2, 10, 0), -1);
     }
 
-    private static void refusals(Due due) {
+    private static void answeredAtEachMinute(Due due) {
+        due.by("1 AN EVENT: likewise, but only when it was allowed (by answer())");
+        for (int clock : new int[] {9, 10, 19, 20, 21}) {
+            ClosureRows x = new ClosureRows();
+            x.step(4, 8, 2);
+            x.close(Due.EVENT, 8, 2, 10, 20, 0);
+            due.is("tick(" + clock + ") without an answer", x.tick(clock), 0);
+            x.answer(0, true);
+            boolean now = clock >= 10 && clock < 20;
+            due.is("closed now at " + clock, x.closed(8, 2, clock), now);
+            due.notices(x, now ? 1 : 0);
+            due.is("its minutes, answered at " + clock, x.minutes(8, 2, 0, 2_000), 10);
+        }
+    }
+
+    private static void unknown(Due due) {
+        due.by("Unknown: no such closure");
+        for (boolean yes : new boolean[] {true, false}) {
+            for (int closure : Due.beside(0, Rows.BUSY_CLOSURES - 1)) {
+                due.refuses("answer(" + closure + ")", Due.UNKNOWN, Rows::busy, x -> x.answer(closure, yes));
+            }
+            due.refuses("answer(100)", Due.UNKNOWN, Rows::full, x -> x.answer(100, yes));
+        }
         ClosureRows x = new ClosureRows();
-        int[] others = {Due.WORKS, Due.SCENE, Due.FLOOD, Due.CROSSING, Due.SLOW};
-        for (int n = 0; n < others.length; n++) {
-            int closure = x.close(others[n], 1, 1, 0, 9, others[n] == Due.CROSSING ? 201 : 3);
-            due.refuses("answer of kind " + others[n], Due.STATE, () -> x.answer(closure, true));
+        for (int n = 0; n < 100; n++) {
+            int next = n;
+            due.refuses("answer(" + n + "), not there yet", Due.UNKNOWN, () -> x.answer(next, true));
+            x.close(Due.EVENT, n % 60, 1 + n / 60, 0, 5, 0);
+            x.answer(n, true);
+            due.is("answered: " + n, x.closed(n % 60, 1 + n / 60, 0), true);
         }
-        int yes = x.close(Due.EVENT, 2, 1, 0, 9, 0);
-        int no = x.close(Due.EVENT, 3, 1, 0, 9, 0);
-        for (int unknown : new int[] {Integer.MIN_VALUE, -1, 7, 100, Integer.MAX_VALUE}) {
-            due.refuses("answer(" + unknown + ")", Due.UNKNOWN, () -> x.answer(unknown, true));
+    }
+
+    private static void noEvent(Due due) {
+        due.by("state: it is no event");
+        int[] others = {
+            Rows.WORKS_ON, Rows.SCENE_OPEN, Rows.SCENE_SHUT, Rows.FLOOD_ON, Rows.FLOOD_LIFTED, Rows.CROSSING_ON,
+            Rows.SLOW_ON, Rows.WORKS_ENDED, Rows.WORKS_LIFTED,
+        };
+        for (int closure : others) {
+            due.refuses("answer(" + closure + ", true)", Due.STATE, Rows::busy, x -> x.answer(closure, true));
+            due.refuses("answer(" + closure + ", false)", Due.STATE, Rows::busy, x -> x.answer(closure, false));
         }
-        x.answer(yes, true);
-        x.answer(no, false);
+    }
+
+    private static void wasAnswered(Due due) {
+        due.by("once .. state: .. or was answered");
         for (boolean again : new boolean[] {true, false}) {
-            due.refuses("answered yes, again", Due.STATE, () -> x.answer(yes, again));
-            due.refuses("answered no, again", Due.STATE, () -> x.answer(no, again));
+            due.refuses("allowed, then " + again, Due.STATE, Rows::busy, x -> x.answer(Rows.EVENT_ALLOWED, again));
+            due.refuses("not allowed, then " + again, Due.STATE, Rows::busy,
+                    x -> x.answer(Rows.EVENT_FORBIDDEN, again));
         }
-        due.is("yes stays", x.closed(2, 1, 0), true);
-        due.is("no stays", x.closed(3, 1, 0), false);
+        ClosureRows x = Rows.busy();
+        x.answer(Rows.EVENT_ASKED, true);
+        due.refuses("answered just now", Due.STATE, () -> x.answer(Rows.EVENT_ASKED, false));
+        due.is("allowed it stays", x.closed(0, 2, 50), true);
     }
 
     private static void unitsAreTold(Due due) {
+        due.by("behind each call that changes closures, incidents or answers (at the clock's minute)");
         ClosureRows x = new ClosureRows();
         x.step(4, 8, 2);
         x.tick(15);
@@ -61,6 +102,7 @@ public final class Promise03AnswerTest {
     }
 
     private static void aLiftedEventIsAnsweredStill(Due due) {
+        due.by("what was lifted holds up to its lifting");
         ClosureRows x = new ClosureRows();
         x.close(Due.EVENT, 8, 1, 0, 20, 0);
         x.tick(5);

@@ -2,12 +2,14 @@ public final class Promise05IncidentTest {
     public static void main(String[] args) {
         Due due = new Due();
         scenesFollow(due);
+        openOrNotAgain(due);
         unitsAreTold(due);
         unknown(due);
         due.end();
     }
 
     private static void scenesFollow(Due due) {
+        due.by("An incident is open, or not.");
         ClosureRows x = new ClosureRows();
         x.close(Due.SCENE, 3, 1, 5, 0, 0);
         x.close(Due.SCENE, 4, 1, 5, 0, 19);
@@ -16,8 +18,6 @@ public final class Promise05IncidentTest {
         due.is("before it begins", x.closed(4, 1, 4), false);
         due.is("from its minute on", x.closed(4, 1, 5), true);
         due.is("as it is now, to come", x.closed(4, 1, 99_999), true);
-        x.incident(19, true);
-        due.is("open again", x.closed(4, 1, 5), true);
         x.tick(50);
         x.incident(19, false);
         due.is("not open: never, a minute gone", x.closed(4, 1, 20), false);
@@ -26,7 +26,23 @@ public final class Promise05IncidentTest {
         due.is("open once more, a minute gone", x.closed(4, 1, 20), true);
     }
 
+    private static void openOrNotAgain(Due due) {
+        due.by("An incident is open, or not.");
+        for (int i : new int[] {0, 19}) {
+            ClosureRows x = new ClosureRows();
+            x.step(0, 4, 1);
+            x.close(Due.SCENE, 4, 1, 0, 0, i);
+            x.incident(i, false);
+            due.is("not open, again", x.closed(4, 1, 0), false);
+            x.incident(i, true);
+            x.incident(i, true);
+            due.is("open, again", x.closed(4, 1, 0), true);
+            due.notices(x, 1);
+        }
+    }
+
     private static void unitsAreTold(Due due) {
+        due.by("behind each call that changes closures, incidents or answers (at the clock's minute)");
         ClosureRows x = new ClosureRows();
         x.step(2, 4, 1);
         x.close(Due.SCENE, 4, 1, 5, 0, 7);
@@ -45,10 +61,10 @@ public final class Promise05IncidentTest {
     }
 
     private static void unknown(Due due) {
-        ClosureRows x = new ClosureRows();
-        for (int i : new int[] {Integer.MIN_VALUE, -1, 20, 21, Integer.MAX_VALUE}) {
-            due.refuses("incident(" + i + ", true)", Due.UNKNOWN, () -> x.incident(i, true));
-            due.refuses("incident(" + i + ", false)", Due.UNKNOWN, () -> x.incident(i, false));
+        due.by("Unknown: there is none such.");
+        for (int i : Due.beside(0, 19)) {
+            due.refuses("incident(" + i + ", true)", Due.UNKNOWN, Rows::busy, x -> x.incident(i, true));
+            due.refuses("incident(" + i + ", false)", Due.UNKNOWN, Rows::busy, x -> x.incident(i, false));
         }
     }
 }

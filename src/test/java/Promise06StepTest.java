@@ -2,49 +2,96 @@ public final class Promise06StepTest {
     public static void main(String[] args) {
         Due due = new Due();
         howMany(due);
-        theRouteIsEmptied(due);
+        emptied(due);
+        sideOfPieceMinusOne(due);
+        unknown(due);
+        range(due);
+        noRoom(due);
         aNewStepTellsNothing(due);
-        refusals(due);
         due.end();
     }
 
     private static void howMany(Due due) {
+        due.by("One more step of a unit's route: how many");
         ClosureRows x = new ClosureRows();
-        for (int unit = 0; unit < 10; unit++) {
-            for (int n = 1; n <= 12; n++) {
+        for (int n = 1; n <= 12; n++) {
+            for (int unit = 0; unit < 10; unit++) {
                 due.is("step " + n + " of unit " + unit, x.step(unit, 59 * (n % 2), 1 + n % 2), n);
             }
         }
         for (int unit = 0; unit < 10; unit++) {
             int full = unit;
-            due.refuses("the 13th step", Due.NO_ROOM, () -> x.step(full, 0, 1));
+            due.refuses("the 13th step of unit " + unit, Due.NO_ROOM, () -> x.step(full, 0, 1));
         }
     }
 
-    private static void theRouteIsEmptied(Due due) {
-        ClosureRows x = new ClosureRows();
-        x.close(Due.FLOOD, 1, 1, 0, 0, 0);
-        for (int n = 0; n < 12; n++) {
-            x.step(0, 1, 1);
+    private static void emptied(Due due) {
+        due.by("piece -1: the route is empty");
+        for (int length : new int[] {0, 1, 11, 12}) {
+            ClosureRows x = new ClosureRows();
+            for (int n = 0; n < length; n++) {
+                x.step(0, 1, 1);
+            }
             x.step(1, 1, 1);
+            due.is("of " + length + " steps", x.step(0, -1, 1), 0);
+            x.close(Due.FLOOD, 1, 1, 0, 0, 0);
+            due.notices(x, 1);
+            due.notice(x, 0, 1, 1, 1, 1, 0);
+            due.is("blocked(0), emptied", x.blocked(0), 0);
+            due.is("blocked(1), not emptied", x.blocked(1), 1);
+            for (int n = 1; n <= 12; n++) {
+                due.is("step " + n + " of an emptied route", x.step(0, 1, 1), n);
+            }
+            due.is("blocked(0), filled again", x.blocked(0), 12);
+            due.refuses("the 13th step", Due.NO_ROOM, () -> x.step(0, 1, 1));
         }
-        int any = 0;
-        for (int side : new int[] {Integer.MIN_VALUE, 0, 1, 3, Integer.MAX_VALUE}) {
-            due.is("step(0, -1, " + side + ")", x.step(0, -1, side), 0);
-            any++;
+    }
+
+    private static void sideOfPieceMinusOne(Due due) {
+        due.by("of piece -1 it does not matter");
+        for (int side : new int[] {Integer.MIN_VALUE, -1, 0, 1, 2, 3, Integer.MAX_VALUE}) {
+            for (int unit : new int[] {0, 9}) {
+                ClosureRows x = Rows.full();
+                due.is("step(" + unit + ", -1, " + side + ")", x.step(unit, -1, side), 0);
+                due.is("the next step", x.step(unit, 0, 1), 1);
+            }
         }
-        due.is("blocked(0), emptied", x.blocked(0), 0);
-        due.is("blocked(1), not emptied", x.blocked(1), 12);
-        due.is("a step of an emptied route", x.step(0, 1, 1), 1);
-        due.is("blocked(0)", x.blocked(0), 1);
-        x.step(0, -1, any);
-        x.step(1, -1, any);
-        x.lift(0, 1);
-        x.lift(0, 2);
-        due.notices(x, 0);
+    }
+
+    private static void unknown(Due due) {
+        due.by("Unknown: no such unit or piece");
+        for (int unit : Due.beside(0, 9)) {
+            due.refuses("unit " + unit, Due.UNKNOWN, Rows::busy, x -> x.step(unit, 0, 1));
+            due.refuses("unit " + unit + ", emptied", Due.UNKNOWN, Rows::busy, x -> x.step(unit, -1, 1));
+        }
+        for (int piece : Due.beside(-1, 59)) {
+            due.refuses("piece " + piece, Due.UNKNOWN, Rows::busy, x -> x.step(0, piece, 1));
+        }
+        due.is("unit 0, piece 0", Rows.busy().step(0, 0, 1), 4);
+        due.is("unit 9, piece 59", Rows.busy().step(9, 59, 2), 2);
+    }
+
+    private static void range(Due due) {
+        due.by("range: side 1 or 2");
+        for (int side : Due.beside(1, 2)) {
+            due.refuses("side " + side + " of piece 0", Due.RANGE, Rows::busy, x -> x.step(0, 0, side));
+            due.refuses("side " + side + " of piece 59", Due.RANGE, Rows::busy, x -> x.step(9, 59, side));
+        }
+        due.is("side 1", Rows.busy().step(0, 59, 1), 4);
+        due.is("side 2", Rows.busy().step(9, 0, 2), 2);
+    }
+
+    private static void noRoom(Due due) {
+        due.by("no room: there are 12");
+        due.refuses("the 13th step of unit 0", Due.NO_ROOM, Rows::full, x -> x.step(0, 0, 1));
+        due.refuses("the 13th step of unit 9", Due.NO_ROOM, Rows::full, x -> x.step(9, 59, 2));
+        for (int unit = 1; unit < 9; unit++) {
+            due.is("a step of unit " + unit, Rows.full().step(unit, 0, 1), 1);
+        }
     }
 
     private static void aNewStepTellsNothing(Due due) {
+        due.by("A new step tells nothing by itself.");
         ClosureRows x = new ClosureRows();
         x.close(Due.WORKS, 1, 1, 0, 10, 0);
         x.step(0, 1, 1);
@@ -56,28 +103,7 @@ public final class Promise06StepTest {
         due.notice(x, 0, 0, 1, 1, 0, 10);
         x.step(1, 1, 1);
         due.is("tick(9), once more", x.tick(9), 0);
-    }
-
-    private static void refusals(Due due) {
-        ClosureRows x = new ClosureRows();
-        for (int unit : new int[] {Integer.MIN_VALUE, -1, 10, Integer.MAX_VALUE}) {
-            due.refuses("unit " + unit, Due.UNKNOWN, () -> x.step(unit, 0, 1));
-            due.refuses("unit " + unit + ", emptied", Due.UNKNOWN, () -> x.step(unit, -1, 1));
-            due.refuses("unit " + unit + ", side 0", Due.UNKNOWN, () -> x.step(unit, 0, 0));
-        }
-        for (int piece : new int[] {Integer.MIN_VALUE, -2, 60, Integer.MAX_VALUE}) {
-            due.refuses("piece " + piece, Due.UNKNOWN, () -> x.step(0, piece, 1));
-            due.refuses("piece " + piece + ", side 0", Due.UNKNOWN, () -> x.step(0, piece, 0));
-        }
-        for (int side : new int[] {Integer.MIN_VALUE, -1, 0, 3, Integer.MAX_VALUE}) {
-            due.refuses("side " + side, Due.RANGE, () -> x.step(0, 0, side));
-        }
-        for (int n = 1; n <= 12; n++) {
-            due.is("step " + n, x.step(0, n, 2), n);
-        }
-        due.refuses("full, unknown piece", Due.UNKNOWN, () -> x.step(0, 60, 1));
-        due.refuses("full, side out of range", Due.RANGE, () -> x.step(0, 0, 3));
-        due.refuses("full", Due.NO_ROOM, () -> x.step(0, 0, 1));
-        due.is("another unit", x.step(1, 0, 1), 1);
+        x.step(0, -1, 0);
+        due.notices(x, 1);
     }
 }

@@ -4,11 +4,12 @@ public final class Promise09ClosedTest {
         oneOfSeveralIsEnough(due);
         slowClosesNothing(due);
         goneAndToCome(due);
-        refusals(due);
+        unknownAndRange(due);
         due.end();
     }
 
     private static void oneOfSeveralIsEnough(Due due) {
+        due.by("A side is CLOSED at a minute when some closure of it (but a slow one) holds then.");
         ClosureRows x = new ClosureRows();
         x.close(Due.EVENT, 6, 1, 0, 100, 0);
         x.close(Due.SLOW, 6, 3, 0, 100, 50);
@@ -16,12 +17,16 @@ public final class Promise09ClosedTest {
         x.close(Due.WORKS, 6, 2, 15, 25, 0);
         due.is("closed(6, 1, 9)", x.closed(6, 1, 9), false);
         due.is("closed(6, 1, 10)", x.closed(6, 1, 10), true);
+        due.is("closed(6, 1, 19)", x.closed(6, 1, 19), true);
         due.is("closed(6, 1, 20)", x.closed(6, 1, 20), false);
         due.is("closed(6, 2, 14)", x.closed(6, 2, 14), false);
+        due.is("closed(6, 2, 15)", x.closed(6, 2, 15), true);
         due.is("closed(6, 2, 24)", x.closed(6, 2, 24), true);
+        due.is("closed(6, 2, 25)", x.closed(6, 2, 25), false);
     }
 
     private static void slowClosesNothing(Due due) {
+        due.by("5 SLOW: as works, but nothing is closed");
         ClosureRows x = new ClosureRows();
         x.close(Due.SLOW, 6, 3, 0, 100, 1);
         for (int t : new int[] {0, 50, 99, 100}) {
@@ -31,6 +36,7 @@ public final class Promise09ClosedTest {
     }
 
     private static void goneAndToCome(Due due) {
+        due.by("of a minute gone all is asked as it is now, too");
         ClosureRows x = new ClosureRows();
         x.close(Due.WORKS, 6, 1, 0, 100, 0);
         x.close(Due.FLOOD, 7, 1, 50, 0, 0);
@@ -44,8 +50,8 @@ public final class Promise09ClosedTest {
         due.is("told of when it is gone", x.closed(8, 1, 15), true);
     }
 
-    private static void refusals(Due due) {
-        ClosureRows x = new ClosureRows();
-        due.refusesSides("closed", (piece, side, t) -> x.closed(piece, side, t));
+    private static void unknownAndRange(Due due) {
+        due.by("Unknown: no such piece; range: side 1 or 2, the minute.");
+        due.needsPlaceAndMinute("closed", (x, piece, side, t) -> x.closed(piece, side, t));
     }
 }
