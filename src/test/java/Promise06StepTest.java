@@ -7,7 +7,6 @@ public final class Promise06StepTest {
         unknown(due);
         range(due);
         noRoom(due);
-        aNewStepTellsNothing(due);
         due.end();
     }
 
@@ -88,22 +87,5 @@ public final class Promise06StepTest {
         for (int unit = 1; unit < 9; unit++) {
             due.is("a step of unit " + unit, Rows.full().step(unit, 0, 1), 1);
         }
-    }
-
-    private static void aNewStepTellsNothing(Due due) {
-        due.by("A new step tells nothing by itself.");
-        ClosureRows x = new ClosureRows();
-        x.close(Due.WORKS, 1, 1, 0, 10, 0);
-        x.step(0, 1, 1);
-        due.notices(x, 0);
-        due.is("tick(9)", x.tick(9), 0);
-        x.incident(0, true);
-        due.notices(x, 0);
-        due.is("tick(1)", x.tick(1), 1);
-        due.notice(x, 0, 0, 1, 1, 0, 10);
-        x.step(1, 1, 1);
-        due.is("tick(9), once more", x.tick(9), 0);
-        x.step(0, -1, 0);
-        due.notices(x, 1);
     }
 }

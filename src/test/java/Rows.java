@@ -25,6 +25,18 @@ final class Rows {
         return new ClosureRows();
     }
 
+    /** A closure 0 of both sides of piece 0 that holds whenever its minutes let it; unit 0 goes over side 1. */
+    static ClosureRows holding(int kind, int from, int to) {
+        ClosureRows x = new ClosureRows();
+        x.step(0, 0, 1);
+        x.close(kind, 0, 3, from, to, Due.goodX(kind));
+        x.incident(Due.goodX(Due.SCENE), true);
+        if (kind == Due.EVENT) {
+            x.answer(0, true);
+        }
+        return x;
+    }
+
     /** Closures of each kind and in each state; the clock is 50, and one of them ends at that very minute. */
     static ClosureRows busy() {
         ClosureRows x = new ClosureRows();
