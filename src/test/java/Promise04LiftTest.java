@@ -137,7 +137,8 @@ public final class Promise04LiftTest {
             due.refuses("works, by " + by, Due.STATE, Rows::busy, x -> x.lift(Rows.WORKS_LIFTED, by));
             due.refuses("a flood, by " + by, Due.STATE, Rows::busy, x -> x.lift(Rows.FLOOD_LIFTED, by));
         }
-        for (int closure : new int[] {Rows.WORKS_ON, Rows.EVENT_ASKED, Rows.SCENE_OPEN, Rows.SCENE_SHUT, Rows.SLOW_ON}) {
+        int[] closures = {Rows.WORKS_ON, Rows.EVENT_ASKED, Rows.SCENE_OPEN, Rows.SCENE_SHUT, Rows.SLOW_ON};
+        for (int closure : closures) {
             ClosureRows x = Rows.busy();
             due.is("lift(" + closure + ", 7)", x.lift(closure, 7), true);
             due.refuses("lifted this minute: " + closure, Due.STATE, () -> x.lift(closure, 8));

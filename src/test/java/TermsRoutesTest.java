@@ -4,6 +4,7 @@ public final class TermsRoutesTest {
         Due due = new Due();
         theEmptyRoute(due);
         upToTwelveSteps(due);
+        noThirteenthStep(due);
         toldOnce(due);
         aNewStepTellsNothing(due);
         emptiedInBetween(due);
@@ -42,7 +43,23 @@ public final class TermsRoutesTest {
                 due.notice(x, n, 3, 5 * n, 1 + n % 2, 1, 0);
             }
         }
-        due.refuses("a 13th step", Due.NO_ROOM, Rows::full, x -> x.step(0, 1, 1));
+    }
+
+    private static void noThirteenthStep(Due due) {
+        due.by("no room: there are 12");
+        due.refuses("a 13th step", Due.NO_ROOM, Rows::full, x -> x.step(0, 30, 1));
+        ClosureRows x = new ClosureRows();
+        for (int n = 0; n < 12; n++) {
+            x.step(3, 5 * n, 1);
+        }
+        due.refuses("the 13th step", Due.NO_ROOM, () -> x.step(3, 59, 2));
+        x.close(Due.FLOOD, 59, 2, 0, 0, 0);
+        due.notices(x, 0);
+        for (int n = 0; n < 12; n++) {
+            x.close(Due.FLOOD, 5 * n, 1, 0, 0, 0);
+            due.notices(x, n + 1);
+        }
+        due.is("blocked(3)", x.blocked(3), 12);
     }
 
     private static void toldOnce(Due due) {
