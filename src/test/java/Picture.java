@@ -3,7 +3,7 @@ import java.util.List;
 import java.util.function.Supplier;
 
 /**
- * All that can be seen of an object of Rows, as a row of answers. Some of it (how long a route is, whose word a flood
+ * What can be seen of an object of Rows, on its pieces, as a row of answers. Some (how long a route is, whose word a flood
  * has) only a changing call shows, so the object is used up. Fewer than 300 calls, as an object has 512.
  */
 final class Picture {
