@@ -3,8 +3,8 @@ import java.util.List;
 import java.util.function.Supplier;
 
 /**
- * What can be seen of an object of Rows, on its pieces, as a row of answers. Some (how long a route is, whose word a flood
- * has) only a changing call shows, so the object is used up. Fewer than 300 calls, as an object has 512.
+ * What can be seen of an object of Rows, on its pieces, as a row of answers. Some (how long a route is, whose word a
+ * flood has) only a changing call shows, so the object is used up. Fewer than 300 calls, as an object has 512.
  */
 final class Picture {
     private static final int[] PIECES = {0, 1, 2, 58, 59};
